@@ -538,7 +538,7 @@ public final class Secretshares {
     }
 
     private static boolean isIn(int set, int holder) {
-        return (set & bitOf(holder)) != 0;
+        return (set >> (holder - 1) & 1) == 1;
     }
 
     private int allHolders() {

@@ -541,6 +541,9 @@ public final class PromisesTest {
         due("mend()", x.mend(0), 4);
         due("text", x.text(0), "7 10 0 3 6 9 12");
         due("seals", x.seals(0), "36 46");
+        x.give(0, 1, 8);
+        due("mend() of the first one", x.mend(0), 1);
+        due("text", x.text(0), "7 10 0 3 6 9 12");
         x.give(1, 7, 0);
         x.lose(1, 6);
         due("mend() with DEGREE + 3", x.mend(1), 7);
@@ -620,6 +623,10 @@ public final class PromisesTest {
         Secretshares x = made();
         ofDealIs(x, 1, 2, 6, 0b1110111, 1, 1, 11);
         ofDealIs(x, 5, -1, 0, 0, 0, 0, -1);
+        x.give(0, 1, 8);
+        ofDealIs(x, 0, 1, 7, 127, 1, 0, 6);
+        x.hide(2, 0, 9, 0, 0, 0);
+        ofDealIs(x, 2, 0, 7, 127, 1, 1, 9);
         x.lose(0, 1);
         x.give(0, 3, 1);
         // through (2, 10) and (3, 1): the slope is -9
@@ -874,6 +881,8 @@ public final class PromisesTest {
         }
         x.prime(3);
         x.hide(0, 1, 4, 3, 0, 0);
+        x.hide(2, 0, 4, 0, 0, 0);
+        due("fits() with DEGREE 0", x.fits(2, 7), 1);
         x.lose(0, 1);
         Check.refused(x, "fits() without a SHARE", () -> x.fits(0, 1));
         x.times(0, 0, 1);
@@ -911,6 +920,10 @@ public final class PromisesTest {
         x.lose(0, 3);
         due("the least one", x.most(0, true), 7);
         due("the greatest one", x.most(0, false), 6);
+        x.give(0, 1, -1);
+        due("the greatest one, the first HOLDER", x.most(0, false), 1);
+        x.give(0, 1, 0);
+        due("the least one, the first HOLDER", x.most(0, true), 1);
         for (int holder : new int[] {1, 4, 5, 6}) {
             x.lose(0, holder);
         }
@@ -980,6 +993,16 @@ public final class PromisesTest {
             x.lose(4, holder);
         }
         due("isSame(), nobody and EMPTY", x.isSame(4, 5), false);
+        x.hide(4, 0, 0, 0, 0, 0);
+        for (int holder = 1; holder <= 7; holder++) {
+            x.give(3, holder, x.share(0, holder) + 1);
+            due("isSame() with another SHARE", x.isSame(0, 3), false);
+            x.regain(3, holder, 127 - (1 << (holder - 1)));
+            due("isSame()", x.isSame(0, 3), true);
+            x.lose(4, holder);
+        }
+        due("isSame(), nobody with DEGREE 0, and EMPTY", x.isSame(4, 5), false);
+        due("isSame(), EMPTY, and nobody with DEGREE 0", x.isSame(5, 4), false);
         noDeal("isSame()", x, deal -> x.isSame(deal, 0));
         noDeal("isSame()", x, deal -> x.isSame(5, deal));
     }
