@@ -6,17 +6,23 @@ final class Check {
         Object answer();
     }
 
+    private static String test = "";
     private static int wrong = 0;
     private static int asked = 0;
 
     private Check() {
     }
 
+    /** What is printed of wrong answers names this test from here on. */
+    static void begin(String name) {
+        test = name + ": ";
+    }
+
     static void due(String call, Object got, Object want) {
         asked++;
         if (!Objects.equals(got, want)) {
             wrong++;
-            System.out.println(call + " answered " + got + ", due is " + want);
+            System.out.println(test + call + " answered " + got + ", due is " + want);
         }
     }
 
@@ -45,23 +51,23 @@ final class Check {
         isThrown(x, call, IllegalArgumentException.class, made);
     }
 
-    static void refused(Secretshares x, String call, Call made) {
+    /** The call answers that, and changes nothing. */
+    static void answers(Secretshares x, String call, Object want, Call made) {
         String before = allOf(x);
-        due(call, made.answer(), -9);
+        due(call, made.answer(), want);
         due(call + ", what is there behind it", allOf(x), before);
     }
 
-    /** All that can be told of an object, so that two of them show whether anything changed. */
+    static void refused(Secretshares x, String call, Call made) {
+        answers(x, call, -9, made);
+    }
+
+    /**
+     * All that can be told of an object, so that two of them show whether anything changed: two calls,
+     * as an object is promised to answer 512 of them only. The digest tells SHARES and SEALS.
+     */
     static String allOf(Secretshares x) {
-        StringBuilder all = new StringBuilder();
-        for (int what = 0; what <= 6; what++) {
-            all.append(x.house(what)).append(' ');
-        }
-        for (int deal = 0; deal <= 5; deal++) {
-            all.append('[').append(x.ofDeal(deal, 0)).append(": ").append(x.text(deal));
-            all.append(" / ").append(x.seals(deal)).append(']');
-        }
-        return all.append(x.digest()).toString();
+        return x.house(0) + " " + x.digest();
     }
 
     static void end() {

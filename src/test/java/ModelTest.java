@@ -5,8 +5,11 @@ import java.util.Map;
 
 /** Long runs of calls, each answer compared with that of the Model; the calls are always the same ones. */
 public final class ModelTest {
-    private static final int RUNS = 350;
-    private static final int CALLS = 500;
+    private static final int RUNS = 700;
+    /** With its digests a run stays below the 512 calls that the document promises of an object. */
+    private static final int CALLS = 250;
+    private static final int CALLS_OF_A_LONG_RUN = 500;
+    private static final int CALLS_TO_A_DIGEST_OF_A_LONG_RUN = 50;
 
     /**
      * Each method with the kinds of its arguments: d DEAL, h HOLDER, s SET of any HOLDERS, t SET that is
@@ -45,11 +48,15 @@ public final class ModelTest {
             if (which < 7) {
                 Check.due("run " + run + ": prime(" + which + ")", program.prime(which), model.prime(which));
             }
-            for (int call = 0; call < CALLS; call++) {
+            boolean isLong = run % 16 < 8;
+            for (int call = 1; call <= (isLong ? CALLS_OF_A_LONG_RUN : CALLS); call++) {
                 String[] kind = KINDS[below(KINDS.length)].split(" ");
                 boolean isRare = kind[0].equals("prime") && below(10) > 0;
                 if (!isRare) {
                     compare(run, ofProgram.get(kind[0]), ofModel.get(kind[0]), kind.length > 1 ? kind[1] : "");
+                }
+                if (!isLong || call % CALLS_TO_A_DIGEST_OF_A_LONG_RUN == 0) {
+                    Check.due("run " + run + ": digest behind call " + call, program.digest(), model.digest());
                 }
             }
         }
@@ -79,7 +86,6 @@ public final class ModelTest {
             text.append(i == 0 ? "" : ", ").append(given[i]);
         }
         Check.due(text + ")", answer(one, program, given), answer(other, model, given));
-        Check.due(text + "), digest behind it", program.digest(), model.digest());
     }
 
     private static Object answer(Method method, Object of, Object[] given) throws IllegalAccessException {
@@ -91,7 +97,7 @@ public final class ModelTest {
     }
 
     private static Object argument(char kind, int deal) {
-        int holders = program.house(4);
+        int holders = model.house(4);
         switch (kind) {
             case 'd':
                 return below(40) == 0 ? below(2) * 7 - 1 : below(3) == 0 ? below(6) : below(3);
@@ -112,7 +118,7 @@ public final class ModelTest {
     }
 
     private static int setThere(int deal, int holders) {
-        int all = deal < 0 || deal > 5 ? 0 : program.ofDeal(deal, 2);
+        int all = deal < 0 || deal > 5 ? 0 : model.ofDeal(deal, 2);
         int mask = below(3) == 0 ? all : all & below(1 << holders);
         return mask == 0 || below(8) == 0 ? below((1 << holders) + 1) : mask;
     }

@@ -201,9 +201,10 @@ public final class PromisesTest {
         }
         due("reciprocal(MIN)", x.reciprocal(MIN), 7);
         for (int which = 0; which <= 6; which++) {
-            x.prime(which);
-            for (int number = 1; number < x.house(1); number += 1 + x.house(1) / 50) {
-                due("a number times its RECIPROCAL", x.reckon(number, x.reciprocal(number), 2), 1);
+            Secretshares y = new Secretshares();
+            y.prime(which);
+            for (int number = 1; number < y.house(1); number += 1 + y.house(1) / 50) {
+                due("a number times its RECIPROCAL", y.reckon(number, y.reciprocal(number), 2), 1);
             }
         }
     }
@@ -274,10 +275,12 @@ public final class PromisesTest {
         noSet("weights()", x, set -> x.weights(set, 0));
         for (int which = 0; which <= 6; which++) {
             x.prime(which);
+            Secretshares y = new Secretshares();
+            y.prime(which);
             int most = (1 << x.house(4)) - 1;
             for (int set = 1; set <= most; set += 6) {
                 for (int place : new int[] {0, 1, 9, -8, MIN, MAX}) {
-                    due("weights(" + set + ", " + place + ")", x.weights(set, place), 1);
+                    due("weights(" + set + ", " + place + ")", y.weights(set, place), 1);
                 }
             }
             Check.noArgument(x, "weights() of one too many", () -> x.weights(most + 1, 0));
