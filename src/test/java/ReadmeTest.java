@@ -51,7 +51,8 @@ public final class ReadmeTest {
             x.prime(which);
             all.append(which == 0 ? "(" : ", ").append(x.house(1));
         }
-        Check.due("README.md tells the primes " + all, readme.contains(all.append(")")));
+        all.append(")");
+        Check.due("README.md tells the primes " + all, readme.contains(all));
     }
 
     private static void eachCallIsNamed() {
